@@ -319,7 +319,7 @@ public final class ProgramSlices {
         }
 
         boolean isCall(int i) {
-            return i >= 0 && i < count && isCallOp(op[i]);
+            return i >= 0 && i < count && op[i] >= FIRST_CALL && op[i] <= LAST_CALL;
         }
 
         int callee(int call) {

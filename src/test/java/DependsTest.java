@@ -11,6 +11,8 @@ public final class DependsTest {
         summaryThroughItself();
         summaryIsLeast();
         summaryThroughOthers();
+        procedureZero();
+        builtAnew();
         wrongSummary();
         Expect.finish();
     }
@@ -190,6 +192,31 @@ public final class DependsTest {
         summaries(desk, 0, "011010010");
         summaries(desk, 2, "101100100");
         summaries(desk, 4, "110110110");
+    }
+
+    private static void procedureZero() {
+        ProgramSlices desk = Ops.built(
+                Ops.WHILE, 0, 1, 0,
+                Ops.CALL_0, 1, 2, 0,
+                Ops.STORE, 0, 3, 1,
+                Ops.END, 0, 0, 0,
+                Ops.LOAD, 2, 3, 0,
+                Ops.DIV, 2, 2, 0);
+        depends(desk, 0, 1, 10, 1, 0, 1, 1, 1, 12, 1, 2, 4, 2, 1, 10, 4, 1, 12, 4, 2, 4, 5, 4, 2, 0, 5, 0);
+        summaries(desk, 1, "100111111");
+    }
+
+    private static void builtAnew() {
+        ProgramSlices desk = Ops.built(
+                Ops.CALL_1, 0, 0, 1, Ops.DIV, 1, 0, 0, Ops.LOAD, 2, 0, 0, Ops.PROC, 0, 0, 0, Ops.MUL, 0, 0, 1);
+        depends(desk, 1, 0, 10, 2, 0, 14, 2, 1, 8);
+        summaries(desk, 0, "110000000");
+        desk.clear();
+        Ops.fill(desk, Ops.CALL_1, 3, 0, 1, Ops.CONST, 1, 0, 0, Ops.LOAD, 2, 0, 0, Ops.PROC, 0, 0, 0,
+                Ops.CONST, 0, 0, 1);
+        Expect.same("build()", desk.build(), 0);
+        depends(desk, 1, 0, 8, 2, 0, 12, 2, 1, 0);
+        summaries(desk, 0, "000000000");
     }
 
     private static void wrongSummary() {

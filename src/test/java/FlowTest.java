@@ -6,6 +6,7 @@ public final class FlowTest {
         bottomNeedNotBeZero();
         throughProcedures();
         diamond();
+        sinkAtTheBeginning();
         numbers();
         whenThereAreNone();
         changesNothing();
@@ -134,6 +135,22 @@ public final class FlowTest {
         desk.label(true, 2, 3);
         desk.label(true, 3, 2);
         flows(desk, 1, 3, 0, 4, 0, 6);
+    }
+
+    private static void sinkAtTheBeginning() {
+        ProgramSlices desk = Ops.built(
+                Ops.OUTPUT, 0, 0, 0,
+                Ops.INPUT, 0, 0, 0,
+                Ops.IF, 0, 2, 0,
+                Ops.CALL_0, 1, 0, 0,
+                Ops.END, 0, 0, 0);
+        twoLevels(desk);
+        desk.label(false, 0, 1);
+        flows(desk, 1, 0);
+        ProgramSlices input = Ops.built(Ops.INPUT, 0, 0, 0, Ops.INPUT, 1, 0, 0, Ops.OUTPUT, 0, 0, 0);
+        twoLevels(input);
+        input.label(false, 0, 1);
+        flows(input, 0, 2);
     }
 
     private static void numbers() {

@@ -11,6 +11,7 @@ public final class RunTest {
         loops();
         fuelEdges();
         procedures();
+        newVariables();
         tiredByDepth();
         halts();
         runRefused();
@@ -205,6 +206,31 @@ public final class RunTest {
         }
     }
 
+    /** A procedure finds 0 in x2 and x3, whatever another one left where it now works. */
+    private static void newVariables() {
+        ProgramSlices desk = Ops.built(
+                Ops.CALL_1, 0, 0, 0,
+                Ops.CALL_2, 0, 0, 0,
+                Ops.PROC, 0, 0, 0,
+                Ops.CONST, 2, 8, 0,
+                Ops.CONST, 3, 9, 0,
+                Ops.PROC, 0, 0, 0,
+                Ops.OUTPUT, 0, 2, 0,
+                Ops.OUTPUT, 0, 3, 0);
+        Expect.same("run", desk.run(true, 6), 0);
+        Expect.same("x2", desk.written(0, 0), 0);
+        Expect.same("x3", desk.written(0, 1), 0);
+        ProgramSlices again = Ops.built(
+                Ops.OUTPUT, 0, 0, 0, Ops.OUTPUT, 0, 1, 0, Ops.OUTPUT, 0, 2, 0, Ops.OUTPUT, 0, 3, 0,
+                Ops.CONST, 0, 1, 0, Ops.CONST, 1, 2, 0, Ops.CONST, 2, 3, 0, Ops.CONST, 3, 4, 0);
+        for (int round = 0; round < 2; round++) {
+            again.run(true, 8);
+            for (int x = 0; x < 4; x++) {
+                Expect.same("x" + x + " at the beginning of a run", again.written(0, x), 0);
+            }
+        }
+    }
+
     private static void tiredByDepth() {
         ProgramSlices desk = Ops.built(Ops.CALL_0, 0, 0, 0);
         Expect.same("CALL of itself", desk.run(true, 600), 2);
@@ -384,13 +410,14 @@ public final class RunTest {
         ProgramSlices desk = Ops.built(
                 Ops.CONST, 0, 100, 0,
                 Ops.CONST, 1, 1, 0,
+                Ops.OUTPUT, 3, 1, 0,
                 Ops.WHILE, 0, 0, 0,
                 Ops.SUB, 0, 0, 1,
                 Ops.OUTPUT, 2, 0, 0,
                 Ops.END, 0, 0, 0);
-        desk.slice(3, false);
+        desk.slice(4, false);
         Expect.same("run", desk.run(true, 600), 0);
-        Expect.same("steps", desk.steps(), 303);
+        Expect.same("steps", desk.steps(), 304);
         Expect.same("all of them", desk.seen(-1), 100);
         Expect.same("the first", desk.seen(0), 99);
         Expect.same("number 58", desk.seen(58), 41);
@@ -404,8 +431,9 @@ public final class RunTest {
         for (int none : new int[] {MIN, -2, 40, 41, 99, 100, MAX}) {
             Expect.same("written(2, " + none + ")", desk.written(2, none), 0);
         }
-        desk.slice(2, false);
-        desk.run(true, 10);
+        Expect.same("the next channel", desk.written(3, 0), 1);
+        desk.slice(3, false);
+        desk.run(true, 11);
         Expect.same("a WHILE's values in a tired run", desk.seen(-1), 3);
         Expect.same("the third", desk.seen(2), 98);
         Expect.same("none of the run before", desk.seen(3), 0);

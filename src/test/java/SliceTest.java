@@ -7,7 +7,10 @@ public final class SliceTest {
         upAndDown();
         heapAndHalt();
         fitAdds();
-        fitTwice();
+        fitInRounds();
+        callAtTheBeginning();
+        procedureZeroAgain();
+        builtAnew();
         fitHeap();
         whatEndsARun();
         refusedKeeps();
@@ -133,23 +136,83 @@ public final class SliceTest {
         slice(desk, 4, false, 0, 2, 3, 4, 7);
     }
 
-    /** What is added for one CALL brings CALLs and PARAMs for which more must be added. */
-    private static void fitTwice() {
+    /** What is added for one CALL brings the PARAMs for which more must be added to another. */
+    private static void fitInRounds() {
+        for (int first = Ops.CALL_1; first <= Ops.CALL_2; first++) {
+            int second = Ops.CALL_1 + Ops.CALL_2 - first;
+            ProgramSlices desk = Ops.built(
+                    Ops.INPUT, 0, 0, 0,
+                    Ops.INPUT, 1, 1, 0,
+                    second, 2, 1, 1,
+                    Ops.INPUT, 3, 3, 0,
+                    second, 2, 3, 3,
+                    first, 1, 2, 2,
+                    first, 3, 0, 0,
+                    Ops.OUTPUT, 0, 3, 0,
+                    Ops.PROC, 0, 0, 0,
+                    Ops.ADD, 0, 0, 1,
+                    Ops.PROC, 0, 0, 0,
+                    Ops.SUB, 0, 0, 1);
+            int near = first == Ops.CALL_1 ? 9 : 11;
+            slice(desk, 7, false, 0, 2, 4, 5, 6, 7, near);
+            fit(desk, 0, 1, 2, 3, 4, 5, 6, 7, 9, 11);
+        }
+    }
+
+    private static void callAtTheBeginning() {
         ProgramSlices desk = Ops.built(
-                Ops.INPUT, 0, 0, 0,
-                Ops.INPUT, 1, 1, 0,
-                Ops.CALL_2, 2, 1, 1,
-                Ops.CALL_1, 3, 2, 2,
-                Ops.CALL_1, 3, 0, 0,
+                Ops.CALL_1, 1, 0, 0,
+                Ops.CALL_1, 2, 3, 3,
+                Ops.OUTPUT, 0, 2, 0,
+                Ops.PROC, 0, 0, 0,
+                Ops.CALL_0, 2, 1, 0,
+                Ops.MUL, 0, 0, 0);
+        slice(desk, 2, false, 0, 1, 2, 4, 5);
+        slice(desk, 5, true, 2, 5);
+        ProgramSlices loop = Ops.built(
+                Ops.WHILE, 0, 0, 0,
+                Ops.ADD, 0, 1, 1,
+                Ops.INPUT, 1, 0, 0,
+                Ops.END, 0, 0, 0);
+        slice(loop, 0, false, 0, 1, 2);
+        slice(loop, 2, true, 0, 1, 2);
+    }
+
+    /** Procedure 0 has PARAMs too, for the CALLs of it. */
+    private static void procedureZeroAgain() {
+        ProgramSlices desk = Ops.built(
+                Ops.CALL_0, 3, 2, 1,
+                Ops.ADD, 3, 0, 3,
                 Ops.OUTPUT, 0, 3, 0,
+                Ops.INPUT, 0, 0, 0,
+                Ops.CALL_0, 3, 3, 0);
+        slice(desk, 1, false, 0, 1, 3, 4);
+        fit(desk, 0, 1, 3, 4);
+        slice(desk, 3, true, 1, 2, 3);
+        ProgramSlices fit = Ops.built(
+                Ops.INPUT, 0, 0, 0,
+                Ops.CALL_1, 2, 0, 0,
+                Ops.OUTPUT, 0, 2, 0,
                 Ops.PROC, 0, 0, 0,
-                Ops.CONST, 1, 2, 0,
-                Ops.MUL, 0, 0, 1,
-                Ops.PROC, 0, 0, 0,
-                Ops.SUB, 0, 0, 1,
-                Ops.OUTPUT, 0, 0, 0);
-        slice(desk, 5, false, 0, 2, 3, 4, 5, 7, 8);
-        fit(desk, 0, 1, 2, 3, 4, 5, 7, 8, 10);
+                Ops.IF, 0, 0, 0,
+                Ops.CALL_0, 0, 1, 1,
+                Ops.END, 0, 0, 0);
+        slice(fit, 2, false, 0, 1, 2, 4, 5);
+        fit(fit, 0, 1, 2, 4, 5);
+    }
+
+    /** Nothing of a program that was cleared is left in the next one. */
+    private static void builtAnew() {
+        ProgramSlices desk = twoCalls();
+        desk.slice(4, false);
+        desk.clear();
+        Ops.fill(desk, Ops.CONST, 0, 1, 0, Ops.CONST, 1, 1, 0, Ops.CALL_1, 2, 0, 0, Ops.LOAD, 3, 1, 0,
+                Ops.OUTPUT, 0, 2, 0, Ops.OUTPUT, 1, 3, 0, Ops.PROC, 0, 0, 0, Ops.CONST, 0, 2, 0);
+        Expect.same("build()", desk.build(), 0);
+        slice(desk, 4, false, 2, 4, 7);
+        slice(desk, 5, false, 1, 2, 3, 5);
+        slice(desk, 0, true, 0);
+        slice(desk, 7, true, 4, 7);
     }
 
     private static void fitHeap() {
