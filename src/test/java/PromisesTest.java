@@ -148,10 +148,18 @@ public final class PromisesTest {
             Expect.same("one more", desk.add(Ops.OUTPUT, 0, 0, 0), -1);
             desk.clear();
         }
-        for (int k = 0; k < 4; k++) {
+        for (int k = 0; k < 2; k++) {
+            promise3OfSlice(k == 1);
+        }
+        promise3Keeps();
+    }
+
+    private static void promise3OfSlice(boolean forward) {
+        ProgramSlices desk = new ProgramSlices();
+        for (int round = 0; round < 2; round++) {
             Ops.fill(desk, Ops.CALL_1, 0, 0, 0, Ops.OUTPUT, 0, 0, 0, Ops.PROC, 0, 0, 0);
             Expect.same("build", desk.build(), 0);
-            desk.slice(1, k % 2 == 1);
+            desk.slice(1, forward);
             desk.run(true, 600);
             Expect.same("a run", desk.steps(), 2);
             desk.clear();
@@ -163,7 +171,6 @@ public final class PromisesTest {
             noRun("built again", desk);
             desk.clear();
         }
-        promise3Keeps();
     }
 
     /** "(Inputs, levels and labels stay.)" */
@@ -193,6 +200,19 @@ public final class PromisesTest {
             Expect.same("flow " + k, desk.flow(k), 32 * 2 * k + 2 * k + 1);
             Expect.same("input " + k + " stays", desk.written(k, 0), 10 + k);
         }
+        for (int k = 0; k < 4; k++) {
+            desk.label(true, k, k + 1);
+        }
+        Expect.same("labels that let all through", desk.check(), 0);
+        desk.clear();
+        for (int k = 0; k < 4; k++) {
+            Ops.fill(desk, Ops.OUTPUT, k, k, 0, Ops.INPUT, k, k, 0, Ops.OUTPUT, k, k, 0);
+        }
+        desk.build();
+        Expect.same("the channels' labels stay", desk.check(), 0);
+        desk.label(true, 2, 2);
+        Expect.same("one less", desk.check(), 1);
+        Expect.same("its flow", desk.flow(0), 32 * 7 + 8);
     }
 
     private static void nothingIsLeftOfTheProgramBefore() {
