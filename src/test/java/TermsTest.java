@@ -7,6 +7,10 @@ public final class TermsTest {
         atMost32Instructions();
         lastPlaceOf32();
         lastPlaceIsEndOrCall();
+        lastPlaceHasSummaries();
+        lastPlaceIsMadeFit();
+        lastPlaceIsInput();
+        largestSlices();
         lastPlaceIsProc();
         sumsAndProductsWrap();
         lessAtTheEdges();
@@ -133,6 +137,76 @@ public final class TermsTest {
         Expect.same("slice of 31", call.slice(31, false), 1);
         Expect.same("STORE's slice has both CALLs", call.slice(2, false), 3);
         Expect.same("the CALL at 31", call.sliced(31), true);
+    }
+
+    /** The summaries of a CALL at 31, and of one at 0 when there are 32, are its own alone. */
+    private static void lastPlaceHasSummaries() {
+        ProgramSlices last = new ProgramSlices();
+        Ops.fill(last, Ops.CALL_2, 2, 0, 1, Ops.PROC, 0, 0, 0, Ops.STORE, 0, 2, 1, Ops.CONST, 0, 1, 0, Ops.PROC, 0, 0, 0);
+        for (int i = 5; i < 31; i++) {
+            last.add(Ops.CONST, 3, i, 0);
+        }
+        last.add(Ops.CALL_1, 0, 0, 1);
+        Expect.same("build", last.build(), 0);
+        summaries("a CALL at 31", last, 31, "000010000");
+        summaries("a CALL of what calls at 31", last, 0, "000010000");
+        ProgramSlices first = new ProgramSlices();
+        first.add(Ops.CALL_1, 2, 0, 1);
+        for (int i = 1; i < 28; i++) {
+            first.add(Ops.CONST, 3, i, 0);
+        }
+        Ops.fill(first, Ops.PROC, 0, 0, 0, Ops.ADD, 0, 0, 0, Ops.PROC, 0, 0, 0, Ops.CALL_0, 0, 0, 1);
+        Expect.same("build", first.build(), 0);
+        summaries("a CALL at 0 of 32", first, 0, "100000000");
+        summaries("a CALL of what calls at 0", first, 31, "100000000");
+    }
+
+    private static void lastPlaceIsMadeFit() {
+        ProgramSlices desk = new ProgramSlices();
+        Ops.fill(desk, Ops.CALL_2, 2, 2, 2, Ops.INPUT, 1, 0, 0, Ops.CALL_1, 3, 1, 1, Ops.OUTPUT, 0, 3, 0,
+                Ops.PROC, 0, 0, 0, Ops.ADD, 0, 1, 1, Ops.PROC, 0, 0, 0);
+        for (int i = 7; i < 29; i++) {
+            desk.add(Ops.CONST, 3, i, 0);
+        }
+        Ops.fill(desk, Ops.INPUT, 0, 1, 0, Ops.INPUT, 1, 2, 0, Ops.CALL_1, 0, 0, 1);
+        Expect.same("build", desk.build(), 0);
+        Expect.same("slice with a CALL at 31", desk.slice(3, false), 6);
+        Expect.same("its instructions", Ops.mask(desk), Ops.of(0, 1, 2, 3, 5, 31));
+        Expect.same("fit", desk.fit(), 7);
+        Expect.same("only ARG 1 of 31 is added", Ops.mask(desk), Ops.of(0, 1, 2, 3, 5, 30, 31));
+    }
+
+    private static void lastPlaceIsInput() {
+        ProgramSlices desk = new ProgramSlices();
+        Ops.fill(desk, Ops.CALL_1, 0, 0, 0, Ops.OUTPUT, 0, 0, 0, Ops.PROC, 0, 0, 0, Ops.INPUT, 0, 0, 0);
+        for (int i = 4; i < 31; i++) {
+            desk.add(Ops.CONST, 3, i, 0);
+        }
+        desk.add(Ops.INPUT, 0, 1, 0);
+        Expect.same("build", desk.build(), 0);
+        desk.levels(2);
+        desk.below(0, 1);
+        desk.label(false, 0, 1);
+        desk.label(false, 1, 1);
+        Expect.same("check", desk.check(), 1);
+        Expect.same("the INPUT at 31", desk.flow(0), 32 * 31 + 1);
+        Expect.same("no other", desk.flow(1), -1);
+    }
+
+    /** As many nodes as there may be, nearly all of them in the slice. */
+    private static void largestSlices() {
+        ProgramSlices desk = new ProgramSlices();
+        desk.add(Ops.WHILE, 0, 0, 0);
+        for (int i = 1; i < 26; i++) {
+            desk.add(Ops.CALL_1, 0, 0, 0);
+        }
+        Ops.fill(desk, Ops.END, 0, 0, 0, Ops.OUTPUT, 0, 0, 0, Ops.PROC, 0, 0, 0,
+                Ops.LOAD, 1, 1, 0, Ops.STORE, 0, 1, 0, Ops.DIV, 0, 0, 1);
+        Expect.same("build", desk.build(), 0);
+        Expect.same("backward", desk.slice(27, false), 30);
+        Expect.same("fit", desk.fit(), 30);
+        Expect.same("forward", desk.slice(0, true), 30);
+        Expect.same("all but END and PROC", Ops.mask(desk), 0xFFFFFFFFL & ~Ops.of(26, 28));
     }
 
     private static void lastPlaceIsProc() {
@@ -833,6 +907,11 @@ public final class TermsTest {
         Expect.same("its instructions", Ops.mask(desk), Ops.of(0, 1, 2, 3, 4, 6, 7, 8));
         Expect.same("run", desk.run(false, 600), 0);
         Expect.same("the second CALL has the first one's result", desk.steps(), 2 + 9 + 9 + 1);
+        ProgramSlices first = Ops.built(
+                Ops.CALL_1, 2, 0, 0, Ops.OUTPUT, 0, 2, 0, Ops.PROC, 0, 0, 0, Ops.CONST, 0, 6, 0);
+        Expect.same("slice with a CALL at 0", first.slice(1, false), 3);
+        Expect.same("run of it", first.run(false, 600), 0);
+        Expect.same("the result of the CALL at 0", first.seen(0), 6);
     }
 
     /** "LEVELS 0 .. n - 1 (n is 1 at first)"; "Inputs and channels have a level each, 0 at first." */
