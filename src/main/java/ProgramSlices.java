@@ -179,7 +179,7 @@ public final class ProgramSlices {
         if (!current.isBackward()) {
             return REFUSED;
         }
-        current.makeFit(walk, dependences, code.procedures);
+        current.makeFit(walk, code);
         machine.forget();
         return current.size();
     }
@@ -762,33 +762,33 @@ public final class ProgramSlices {
                     putAll(w, dependences.neighbours(node, w, forward));
                 }
                 if (between == OUT_TO_CALLS) {
-                    goOut(node, forward);
+                    putAll(partAt(node), callsBeyond(node, forward));
                 } else if (between == INTO_PROCEDURES) {
-                    goInto(node, forward);
+                    putAll(PARTS, sideBeyond(node, forward));
                 }
             }
         }
 
-        private void goOut(int node, boolean forward) {
-            if (node < FIRST_OF_PROCEDURES) {
-                return;
-            }
-            int part = (node - FIRST_OF_PROCEDURES) % PARTS;
-            int procedure = (node - FIRST_OF_PROCEDURES) / PARTS;
-            if (isEnd(part) == forward) {
-                putAll(part, dependences.callsOf(procedure));
-            }
+        /** The part of the CALL, or of the procedure, that the node is. */
+        private static int partAt(int node) {
+            return node < FIRST_OF_PROCEDURES ? node / MOST_INSTRUCTIONS : (node - FIRST_OF_PROCEDURES) % PARTS;
         }
 
-        private void goInto(int node, boolean forward) {
-            int part = node / MOST_INSTRUCTIONS;
+        /** The CALLs to which a walk goes out from a procedure's node. */
+        private int callsBeyond(int node, boolean forward) {
+            if (node < FIRST_OF_PROCEDURES || isEnd(partAt(node)) != forward) {
+                return 0;
+            }
+            return dependences.callsOf((node - FIRST_OF_PROCEDURES) / PARTS);
+        }
+
+        /** The bit, among the procedures' nodes, of the one into which a walk goes from a CALL's node. */
+        private int sideBeyond(int node, boolean forward) {
             int instruction = node % MOST_INSTRUCTIONS;
-            if (node >= FIRST_OF_PROCEDURES || !code.isCall(instruction)) {
-                return;
+            if (node >= FIRST_OF_PROCEDURES || !code.isCall(instruction) || isEnd(partAt(node)) == forward) {
+                return 0;
             }
-            if (isEnd(part) != forward) {
-                put(sideOf(code.callee(instruction), part));
-            }
+            return 1 << (code.callee(instruction) * PARTS + partAt(node));
         }
 
         /** Ends are joined by DOWN, the other parts by UP. */
@@ -836,31 +836,37 @@ public final class ProgramSlices {
             return Integer.bitCount(words[0]);
         }
 
-        void makeFit(Walk walk, Dependences dependences, int procedures) {
+        /**
+         * In the order of the CALLs' numbers: the document leaves it open, but a node that came in with
+         * another's slice brings less along than its own slice would, so now and then it matters.
+         */
+        void makeFit(Walk walk, Code code) {
             boolean grown = true;
             for (int round = 0; round < NODES && grown; round++) {
                 grown = false;
-                for (int p = 0; p < procedures; p++) {
-                    for (int part = ARG_0; part <= BEFORE; part++) {
-                        grown |= fitPart(walk, dependences.callsOf(p), p, part);
+                for (int i = 0; i < code.count; i++) {
+                    if (code.isCall(i)) {
+                        grown |= fitCall(walk, i, code.callee(i));
                     }
                 }
             }
         }
 
-        private boolean fitPart(Walk walk, int calls, int procedure, int part) {
-            if (!hasBit(words[PARTS], procedure * PARTS + part)) {
-                return false;
-            }
+        private boolean fitCall(Walk walk, int call, int procedure) {
             boolean grown = false;
-            for (int i = 0; i < MOST_INSTRUCTIONS; i++) {
-                if (hasBit(calls & words[0] & ~words[part], i)) {
-                    walk.takeSlice(partOf(i, part), false);
+            for (int part = ARG_0; part <= BEFORE; part++) {
+                if (lacks(call, procedure, part)) {
+                    walk.takeSlice(partOf(call, part), false);
                     join(walk);
                     grown = true;
                 }
             }
             return grown;
+        }
+
+        private boolean lacks(int call, int procedure, int part) {
+            return hasBit(words[0], call) && hasBit(words[PARTS], procedure * PARTS + part)
+                    && !hasBit(words[part], call);
         }
 
         private void join(Walk walk) {

@@ -545,7 +545,7 @@ final class Model {
         boolean grown = true;
         while (grown) {
             grown = false;
-            for (int i = code.size() - 1; i >= 0; i--) {
+            for (int i = 0; i < code.size(); i++) {
                 for (int k = 0; call(i) && k < 3; k++) {
                     if (sliceNodes.contains(instruction(i)) && sliceNodes.contains(side(PARAMS[k], op(i) - 13))
                             && !sliceNodes.contains(part(INS[k], i))) {

@@ -21,6 +21,7 @@ public final class PromisesTest {
         promise11OfProcedure0();
         promise12();
         promise12OnlyWhatIsInIt();
+        promise12InTheOrderOfTheCalls();
         promise12AtTheFirst();
         promise12ForTheHeap();
         promise13();
@@ -610,6 +611,20 @@ public final class PromisesTest {
                 Ops.PROC, 0, 0, 0, Ops.PROC, 0, 0, 0, Ops.PROC, 0, 0, 0, Ops.CONST, 0, 1, 0);
         slice(param, 4, false, 1, 2, 3, 4);
         fit(param, 0, 1, 2, 3, 4);
+    }
+
+    /**
+     * The document does not say which CALL comes first. Here it matters: were ARG 0 of the CALL at 10 taken
+     * first, ARG 0 of the CALL at 4 would come in with it, but not the CALL at 1, which calls that one's procedure.
+     */
+    private static void promise12InTheOrderOfTheCalls() {
+        ProgramSlices desk = Ops.built(
+                Ops.PROC, 0, 0, 0, Ops.CALL_2, 1, 3, 2, Ops.PROC, 0, 0, 0, Ops.STORE, 0, 2, 0, Ops.CALL_2, 2, 3, 3,
+                Ops.PROC, 0, 0, 0, Ops.CALL_0, 3, 3, 2, Ops.IF, 0, 0, 0, Ops.ADD, 3, 1, 2, Ops.CONST, 1, 3, 0,
+                Ops.CALL_0, 3, 3, 0, Ops.ELSE, 0, 0, 0, Ops.ADD, 0, 0, 3, Ops.CALL_2, 1, 0, 0, Ops.LOAD, 0, 0, 0,
+                Ops.END, 0, 0, 0, Ops.IF, 0, 1, 0, Ops.CALL_3, 2, 2, 0, Ops.END, 0, 0, 0);
+        slice(desk, 17, false, 4, 6, 7, 9, 10, 12, 13, 16, 17);
+        fit(desk, 1, 3, 4, 6, 7, 8, 9, 10, 12, 13, 14, 16, 17);
     }
 
     /** The CALL at 0 and the CALLs of procedure 0 are made fit like the others. */
